@@ -872,7 +872,7 @@ public final class NobodyFirst {
             if (kind[i] == STAYER && (present & ~stood & ~(1 << party.pair[i])) != 0) {
                 return NEVER;
             }
-            if (kind[i] == BUS || kind[i] == SLY && stood != 0) {
+            if (kind[i] == BUS || (kind[i] == SLY && stood != 0)) {
                 return goesFrom[i];
             }
             return goesFrom[i] + shameAt(i, minute);

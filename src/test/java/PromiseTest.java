@@ -110,7 +110,8 @@ public final class PromiseTest {
             "s360,1;", "s0,0;", "s0,100;", "s0;", "s0,1,1;", "w360;", "w0,0;", "w;", "l100,0;", "l0,61;", "l0;", "l0,0,0;",
             "b360;", "b;", "b0,0;", "c0,0;", "c100,0;", "c1;", "c1,1,1;", "u0,0,0;", "u4,0,0;", "u1,100,0;", "u1,0,100;", "u1,0;",
             "y0,0,0;", "G0,0,0,0;", "x1;", " b1;", "b 1;", "b1 ;", "b-1;", "b+1;", "b0001;", "b1", "b1,", "b,1;", "b1,;", "s1,,1;",
-            "c1,1000;", "a;", "gs1,1;", "\u0000", "\u00ff"
+            "c1,1000;", "a;", "gs1,1;", "\u0000", "\u00ff", "g,0,0,0;", "g0,,0,0;", "g0,0,,0;", "g0,0,0,;", "s,1;", "s1,;",
+            "l,0;", "l0,;", "c,1;", "c1,;", "u,1,1;", "u1,,1;", "u1,1,;"
         };
         String[] heads = {"", "b5;", "g0,0,0,0;b12;l1,2;"};
         for (String head : heads) {
@@ -131,6 +132,22 @@ public final class PromiseTest {
         due("4 a look at one told later", Checks.faultOf("g0,1,1,1;y1,1,1;g0,1,1,1;"), 9);
         due("4 a look at the last told", Checks.faultOf("g0,1,1,1;g0,1,1,1;y1,1,1;"), NONE);
         due("4 a look of 2", Checks.faultOf("g0,1,1,1;y0,1,2;"), 9);
+        for (String look : new String[] {"y,1,1;", "y0,,1;", "y0,1,;", "y0,1;", "y0,1,1,1;"}) {
+            due("4 fault of " + look, Checks.faultOf("g0,1,1,1;" + look), 9);
+        }
+        due("4 a look at the eighth", Checks.faultOf(eight + "y7,1,1;"), NONE);
+        due("4 a look at a ninth", Checks.faultOf(eight + "y8,1,1;"), 72);
+        NobodyFirst stale = new NobodyFirst();
+        Checks.writeText(stale, "b12;b3;");
+        stale.wipe();
+        Checks.writeText(stale, "b12");
+        due("4 what was wiped does not end an item", stale.fault(), 0);
+        stale.wipe();
+        Checks.writeText(stale, "b1");
+        due("4 nor go on with a number", stale.fault(), 0);
+        due("4 the most bytes", Checks.faultOf("b012;".repeat(80)), NONE);
+        due("4 the most bytes, cut off behind a number", Checks.faultOf("b012;".repeat(79) + "b1;b1"), 398);
+        due("4 the most bytes, cut off behind a letter", Checks.faultOf("b012;".repeat(79) + "b12;b"), 399);
         due("4 a look at 360", Checks.faultOf("g0,1,1,1;y0,360,1;"), 9);
         due("4 the first of two faults", Checks.faultOf("b1;b999;b998;"), 3);
         due("4 a fault inside a fault", Checks.faultOf("b1;g0,0,0b1;"), 3);
@@ -173,6 +190,10 @@ public final class PromiseTest {
         due("5 a hall of 20 without", x.when(0, 1), 40);
         due("5 an end of 240 without", x.wasted(-1), 200);
         due("5 no custom without", x.meant(1, 1), NONE);
+        x.lay();
+        due("5 nor when it is laid again", x.meant(1, 1), NONE);
+        due("5 nor an old hall", x.when(0, 1), 40);
+        due("5 nor an old end", x.wasted(-1), 200);
         NobodyFirst y = laid("g0,10,50,0;g1,100,0,3;g2,0,20,0;");
         due("5 draws by 15 without", y.shame(0, 21), 35);
     }
@@ -382,6 +403,9 @@ public final class PromiseTest {
         NobodyFirst as = laid("g0,355,0,0;l0,0;b355;");
         due("15 the last that is tried", as.best(0), 350);
         due("15 all, though none would be better", as.best(1), 10);
+        NobodyFirst first = laid("g0,0,50,0;l0,0;b0;");
+        due("15 at 0", first.best(0), 0);
+        due("15 at 0", first.best(1), 0);
         NobodyFirst zero = laid("g0,0,0,0;l0,0;b0;");
         due("15 the first", zero.best(0), 0);
         due("15 nothing", zero.best(1), 0);
@@ -418,6 +442,10 @@ public final class PromiseTest {
         due("16 the last minute", last.given(0), 330);
         due("16 and its sum", last.given(-1), 329 - 319 + 340 - 325 + 359 - 340);
         due("16 the second is not given", last.given(1), NONE);
+        // At 360 it would be less (56): then the second would not hold up the three.
+        NobodyFirst over = laid("g0,349,0,0;g0,349,0,0;g0,349,0,0;g1,355,40,0;l0,10;b359;c40,0;");
+        due("16 not at 360", over.given(0), 0);
+        due("16 not at 360", over.given(-1), 3 * 16 + 10 + 6);
         x.sign(0, 10);
         due("16 with one more sign", x.given(-1), 5);
         x.takeBack();
@@ -446,6 +474,8 @@ public final class PromiseTest {
         due("17 first alone", x.cost(0, 10), 20 + 90);
         due("17 behind", x.cost(1, 10), 30);
         due("17 both at once", x.cost(0, 11), 10);
+        due("17 both at the first", x.cost(0, 0), 20);
+        due("17 both at the first", x.cost(1, 0), 60);
         due("17 both at once", x.cost(1, 11), 30);
         due("17 the other first", x.cost(0, 5), 130);
         due("17 the other first alone", x.cost(1, 5), 60 + 70);
@@ -458,6 +488,8 @@ public final class PromiseTest {
         for (int f : new int[] {-1, 100000, LEAST, MOST}) due("17 cost by " + f, x.cost(0, f), BAD);
         NobodyFirst alone = laid("g2,300,9,0;");
         due("17 one pair alone is first", alone.cost(0, 4), 9);
+        NobodyFirst zero = laid("g0,0,0,0;");
+        due("17 of nothing", zero.cost(0, 0), 180);
         NobodyFirst four = laid("g0,180,1,0;g1,210,2,0;g2,240,3,0;g3,270,4,0;");
         int[] costs = {90, 30, 30, 94};
         for (int i = 0; i < 4; i++) due("17 of four " + i, four.cost(i, 123), costs[i]);
@@ -509,6 +541,9 @@ public final class PromiseTest {
         due("20 without", y.meant(3, 0), NONE);
         due("20 without", y.meant(3, 1), NONE);
         due("20 the last one of it", y.meant(1, 0), NONE);
+        NobodyFirst ones = laid("g0,1,1,1;u1,1,0;u2,0,1;");
+        due("20 one and none", ones.meant(1, 0) * 10 + ones.meant(1, 1), 11);
+        due("20 none and one", ones.meant(2, 0) * 10 + ones.meant(2, 1), 1);
         due("20 in lowest terms", y.meant(2, 0) * 1000 + y.meant(2, 1), 99197);
         due("20 bad ahead of none", y.meant(3, 2), BAD);
         for (int n : new int[] {-1, 0, 4, LEAST, MOST}) due("20 meant " + n, x.meant(n, 0), BAD);
@@ -643,6 +678,27 @@ public final class PromiseTest {
         due("26 no more", x.takeBack(), NO);
         due("26 the two oldest stay", x.count(2), 2);
         due("26 and count", x.shame(0, 50), 88);
+        NobodyFirst mixed = new NobodyFirst();
+        mixed.sign(0, 1);
+        mixed.say(0);
+        for (int k = 0; k < 5; k++) mixed.sign(0, 1);
+        for (int k = 0; k < 3; k++) mixed.say(0);
+        for (int k = 3; k > 0; k--) {
+            mixed.takeBack();
+            due("26 a word", mixed.count(2) * 10 + mixed.count(3), 60 + k);
+        }
+        for (int k = 5; k > 0; k--) {
+            mixed.takeBack();
+            due("26 a sign", mixed.count(2) * 10 + mixed.count(3), 10 * k + 1);
+        }
+        due("26 the two oldest can't be", mixed.takeBack(), NO);
+        NobodyFirst nine = new NobodyFirst();
+        nine.sign(0, 1);
+        nine.say(0);
+        for (int k = 0; k < 5; k++) nine.sign(0, 1);
+        for (int k = 0; k < 2; k++) nine.say(0);
+        for (int k = 0; k < 8; k++) nine.takeBack();
+        due("26 of nine the oldest alone is left", nine.count(2) * 10 + nine.count(3), 10);
         NobodyFirst y = laid("g0,100,90,0;s0,10;s0,20;l0,0;");
         due("26 none told in the text", y.takeBack(), NO);
         y.sign(0, 30);
