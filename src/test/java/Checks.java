@@ -1,3 +1,5 @@
+import java.util.function.IntUnaryOperator;
+
 /** Counts answers that are not due, and writes texts into objects. */
 final class Checks {
     private int wrong = 0;
@@ -10,6 +12,16 @@ final class Checks {
             if (wrong <= 40) {
                 System.out.println(call + " answered " + got + ", due is " + want);
             }
+        }
+    }
+
+    /** The least and the most are not BAD; what is next to them outside, and far away, is. */
+    void outside(String call, IntUnaryOperator asked, int least, int most) {
+        for (int inside : new int[] {least, most}) {
+            due(call + " " + inside + " is not bad", asked.applyAsInt(inside) == -1 ? 1 : 0, 0);
+        }
+        for (int bad : new int[] {least - 1, most + 1, least - 256, most + 256, Integer.MIN_VALUE, Integer.MAX_VALUE}) {
+            due(call + " " + bad, asked.applyAsInt(bad), -1);
         }
     }
 
